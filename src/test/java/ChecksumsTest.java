@@ -155,5 +155,14 @@ public final class ChecksumsTest {
         check.due("all nodes", x.comparisons(0, 1), 31);
         x.leave(0);
         check.due("also of one who left", x.wrongCells(0, 1), 0xFFFF);
+        check.due("of himself, behind that", x.wrongCells(0, 0), 0);
+        x.run(1, 2);
+        LockstepRoom y = Check.loaded("member a 1;member b 1;fault b 0 0 1;seal;");
+        y.tick();
+        check.due("cell 0", y.firstWrongCell(0, 1), 0);
+        check.due("of himself, behind that", y.firstWrongCell(1, 1), LockstepRoom.NOT_FOUND);
+        check.due("cell 0, behind that", y.wrongCells(0, 1), 1);
+        check.due("of himself, behind that", y.comparisons(1, 1), 1);
+        check.due("cell 0, behind that", y.comparisons(0, 1), 9);
     }
 }

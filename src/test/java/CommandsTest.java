@@ -13,6 +13,7 @@ public final class CommandsTest {
         faults();
         giving();
         sealing();
+        fullScript();
         telling();
         writing();
         check.finish();
@@ -221,6 +222,23 @@ public final class CommandsTest {
         check.due("run", x.run(0, 40), 40);
         check.due("no command was executed", x.cellOf(0, 15), 0);
         check.due("rootAt(40)", x.rootAt(0, 40), x.checksum(0, 1));
+    }
+
+    private static void fullScript() {
+        LockstepRoom x = Check.loaded("member a 1;member b 1;");
+        for (int turn = 0; turn < 40; turn++) {
+            for (int k = 0; k < 8; k++) {
+                x.give((k + 1) % 2, LockstepRoom.ADD, turn % 16, turn * 8 + k);
+            }
+            x.seal();
+        }
+        for (int turn = 0; turn < 40; turn++) {
+            check.due("commands", x.commandCount(turn), 8);
+            check.due("operand", x.command(turn, 7, 3), turn * 8 + 6);
+        }
+        x.run(1, 40);
+        check.due("cell", x.cellOf(1, 15), 8 * (120 + 248) + 2 * 28);
+        check.due("truth", x.truth(40, 7), 8 * (56 + 184 + 312) + 3 * 28);
     }
 
     // Promise 39

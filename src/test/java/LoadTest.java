@@ -9,6 +9,9 @@ public final class LoadTest {
         emptyTexts();
         whatATextGives();
         failedLoads();
+        loadsInARow();
+        loadsAfterHealing();
+        cutTexts();
         syntax();
         ranges();
         names();
@@ -146,6 +149,58 @@ public final class LoadTest {
         check.due("nothing to undo", x.undoCount(), 0);
     }
 
+    /** A room that was loaded often has nothing of the texts before, also not of those with errors. */
+    private static void loadsInARow() {
+        LockstepRoom x = new LockstepRoom();
+        String much = "start 1 2 3;member a 1;member zz 2;do zz put 1 1;seal;do a put 1 1;fault a 1 1 1;set lag 3;set quorum 1;";
+        for (int n = 0; n < 3; n++) {
+            check.due("load of much", Check.load(x, much), 9);
+            check.due("members", x.count(0), 2);
+        }
+        for (int n = 0; n < 3; n++) {
+            check.due("load of much and an error", Check.load(x, much + "x"), LockstepRoom.SYNTAX_ERROR);
+            check.due("a name of the text before", Check.load(x, "member a 1;do zz put 1 1;"), LockstepRoom.NAME_ERROR);
+            check.due("load of little", Check.load(x, "member b 1;"), 1);
+            check.due("written", Check.written(x, 0), "b: 0 0 0 0 0 0 0 0 0 0 0 0 0 0 0 0");
+            check.due("numbers", x.count(0) * 1000 + x.count(1) * 100 + x.count(2) * 10 + x.count(3), 1000);
+            check.due("settings", x.getSetting(0) * 10 + x.getSetting(1), 402);
+            check.due("truth", x.truth(0, 1), 0);
+        }
+    }
+
+    /** Members who gave, got and were healed are followed by new ones who did not. */
+    private static void loadsAfterHealing() {
+        LockstepRoom x = new LockstepRoom();
+        String text = "member a 1;member b 1;member c 1;fault b 0 0 1;seal;";
+        for (int n = 0; n < 4; n++) {
+            Check.load(x, text);
+            for (int m = 0; m < 3; m++) {
+                for (int what = 3; what < 6; what++) {
+                    check.due("memberNumber(" + m + ", " + what + ")", x.memberNumber(m, what), 0);
+                }
+                check.due("active", x.memberNumber(m, 2), 1);
+                check.due("executed", x.memberNumber(m, 1), 0);
+            }
+            x.tick();
+            check.due("heal", x.heal(1), 1);
+            x.leave(0);
+        }
+    }
+
+    /** What stands in the buffer behind the length is not read. */
+    private static void cutTexts() {
+        String[] texts = {"seal;sea|l;", "seal;seal|;", "start 9|9999;", "seal;|x", "member a 1;do a|b put 1 1;", "seal |"};
+        int[] codes = {LockstepRoom.SYNTAX_ERROR, LockstepRoom.SYNTAX_ERROR, LockstepRoom.SYNTAX_ERROR, 1, LockstepRoom.SYNTAX_ERROR,
+            LockstepRoom.SYNTAX_ERROR};
+        int[] positions = {5, 9, 7, LockstepRoom.NOT_FOUND, 15, 5};
+        for (int k = 0; k < texts.length; k++) {
+            LockstepRoom x = new LockstepRoom();
+            Check.feed(x, texts[k].replace("|", ""));
+            check.due("load of <" + texts[k] + ">", x.load(texts[k].indexOf('|')), codes[k]);
+            check.due("errorPosition of <" + texts[k] + ">", x.errorPosition(), positions[k]);
+        }
+    }
+
     private static void syntax() {
         int e = LockstepRoom.SYNTAX_ERROR;
         error("seal", e, 4);
@@ -156,6 +211,8 @@ public final class LoadTest {
         error("sea;", e, 0);
         error("seals;", e, 0);
         error("Seal;", e, 0);
+        error("zeal;", e, 0);
+        error("seam;", e, 0);
         error("seal\t;", e, 4);
         error("seal\r;", e, 4);
         error("seal;\u0000", e, 5);

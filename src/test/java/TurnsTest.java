@@ -138,6 +138,13 @@ public final class TurnsTest {
         x.leave(0);
         check.due("with one who left", x.trueMembers(), 7);
         check.due("of none", new LockstepRoom().trueMembers(), 0);
+        LockstepRoom y = Check.loaded("member a 1;member b 1;do a add 0 1;seal;do a add 0 1;seal;fault b 0 0 1;");
+        y.run(0, 1);
+        check.due("behind the first turn", y.trueMembers(), 3);
+        y.run(1, 1);
+        check.due("but for the one with a fault", y.trueMembers(), 1);
+        y.run(0, 1);
+        check.due("but for the one with a fault", y.trueMembers(), 1);
     }
 
     // Promise 33

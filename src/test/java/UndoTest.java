@@ -9,6 +9,8 @@ public final class UndoTest {
         tenChanges();
         noChanges();
         buffersStay();
+        tenFaults();
+        lastTurn();
         overwrittenCommands();
         check.finish();
     }
@@ -148,6 +150,32 @@ public final class UndoTest {
         check.due("the output stays", x.outputAt(3), '7');
         check.due("the input stays", x.feed(0x20202020, 0x20202020, 0x20202020, 0x20202020, 0x20202020), 40);
         check.due("load", x.load(40), 1);
+    }
+
+    private static void tenFaults() {
+        LockstepRoom x = Check.loaded("member a 1;member b 1;");
+        for (int f = 0; f < 10; f++) {
+            x.fault(f % 2, 39 - f, f, 100 + f);
+        }
+        String before = all(x);
+        x.leave(0);
+        check.due("faults of b", x.count(3), 5);
+        x.undo();
+        check.due("all faults", all(x), before);
+        for (int f = 0; f < 10; f++) {
+            check.due("amount of fault " + f, x.faultNumber(f, 3), 100 + f);
+        }
+    }
+
+    private static void lastTurn() {
+        LockstepRoom x = Check.loaded("member a 1;member b 1;set quorum 1;fault b 39 15 1;" + "seal;".repeat(40));
+        x.run(0, 40);
+        x.run(1, 40);
+        String before = all(x);
+        check.due("heal", x.heal(1), 1);
+        check.due("healed", all(x).equals(before), false);
+        x.undo();
+        check.due("state ahead of heal", all(x), before);
     }
 
     /** Commands of an undone turn are written over by others. */

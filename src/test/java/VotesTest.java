@@ -12,6 +12,8 @@ public final class VotesTest {
         healingAll();
         healingAllLooksAgain();
         joining();
+        joiningAgain();
+        joiningAfterAHealed();
         noJoining();
         leaving();
         check.finish();
@@ -240,6 +242,48 @@ public final class VotesTest {
         check.due("cells", Check.written(x, 3), "*: 6 1 0 9 0 0 0 0 0 0 0 0 0 0 0 0");
     }
 
+    /** What a member had who joined and was undone is not that of the next one. */
+    private static void joiningAgain() {
+        LockstepRoom x = Check.loaded("member a 1;member b 1;seal;");
+        x.join(3);
+        x.leave(0);
+        x.leave(1);
+        x.setSetting(LockstepRoom.QUORUM, 1);
+        x.join(1);
+        x.fault(2, 0, 5, 5);
+        x.setSetting(LockstepRoom.QUORUM, 2);
+        x.undo();
+        check.due("given by the one who joined", x.memberNumber(2, 3), 16);
+        for (int left = x.undoCount(); left > 0; left--) {
+            x.undo();
+        }
+        check.due("members", x.count(0), 2);
+        x.fault(0, 0, 1, 1);
+        x.tick();
+        check.due("join", x.join(2), LockstepRoom.NOT_ALLOWED);
+        x.undo();
+        check.due("join", x.join(2), 2);
+        int[] due = {2, 0, 1, 0, 16, 0};
+        for (int what = 0; what < 6; what++) {
+            check.due("memberNumber(2, " + what + ")", x.memberNumber(2, what), due[what]);
+        }
+    }
+
+    /** One who joined is healed; then that is undone and another one joins. */
+    private static void joiningAfterAHealed() {
+        LockstepRoom x = Check.loaded("member a 1;member b 1;seal;");
+        x.join(1);
+        x.fault(2, 0, 5, 5);
+        x.tick();
+        check.due("heal", x.heal(2), 1);
+        for (int n = 0; n < 4; n++) {
+            x.undo();
+        }
+        x.join(4);
+        check.due("healed", x.memberNumber(2, 5), 0);
+        check.due("got", x.memberNumber(2, 4), 16);
+    }
+
     private static void noJoining() {
         check.due("join in a new room", new LockstepRoom().join(1), LockstepRoom.NOT_ALLOWED);
         LockstepRoom x = Check.loaded("member a 1;member b 1;member c 1;fault c 0 0 1;seal;seal;");
@@ -262,7 +306,7 @@ public final class VotesTest {
 
     // Promise 43
     private static void leaving() {
-        LockstepRoom x = Check.loaded("start 3;member a 1;member b 1;fault a 0 0 1;fault b 0 1 1;fault a 1 2 1;fault b 2 3 1;do a put 5 6;do b put 5 7;seal;");
+        LockstepRoom x = Check.loaded("start 3;member a 1;member b 1;fault a 0 0 1;fault b 0 1 1;fault a 39 2 1;fault b 2 3 1;do a put 5 6;do b put 5 7;seal;");
         x.give(0, LockstepRoom.PUT, 7, 7);
         check.due("leave(2)", x.leave(2), LockstepRoom.NOT_FOUND);
         check.due("leave(-1)", x.leave(-1), LockstepRoom.NOT_FOUND);
@@ -280,6 +324,9 @@ public final class VotesTest {
         x.undo();
         x.undo();
         check.due("waiting again", x.count(3), 4);
+        for (int f = 0; f < 4; f++) {
+            check.due("cell of fault " + f, x.faultNumber(f, 2), f);
+        }
         check.due("active again", x.memberNumber(0, 2), 1);
     }
 }
