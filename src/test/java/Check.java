@@ -9,12 +9,22 @@ final class Check {
 
     private int wrong = 0;
     private int looked = 0;
+    private String sentence = "";
+
+    /** The sentence of the document that the next answers are about: it is printed with each one that is not as due. */
+    void about(String newSentence) {
+        sentence = "[" + newSentence + "] ";
+    }
+
+    private void tell(String call, Object got, Object want) {
+        wrong++;
+        System.out.println(sentence + call + " answered " + got + ", due is " + want);
+    }
 
     void due(String call, long got, long want) {
         looked++;
         if (got != want) {
-            wrong++;
-            System.out.println(call + " answered " + got + ", due is " + want);
+            tell(call, got, want);
         }
     }
 
@@ -25,16 +35,14 @@ final class Check {
     void due(String call, double got, double want) {
         looked++;
         if (Double.compare(got, want) != 0) {
-            wrong++;
-            System.out.println(call + " answered " + got + ", due is " + want);
+            tell(call, got, want);
         }
     }
 
     void due(String call, String got, String want) {
         looked++;
         if (!got.equals(want)) {
-            wrong++;
-            System.out.println(call + " answered " + got + ", due is " + want);
+            tell(call, got, want);
         }
     }
 
@@ -43,12 +51,10 @@ final class Check {
         looked++;
         try {
             long got = made.answer();
-            wrong++;
-            System.out.println(call + " answered " + got + ", due is an IndexOutOfBoundsException");
+            tell(call, got, "an IndexOutOfBoundsException");
         } catch (RuntimeException e) {
             if (e.getClass() != IndexOutOfBoundsException.class) {
-                wrong++;
-                System.out.println(call + " threw " + e + ", due is an IndexOutOfBoundsException");
+                tell(call, e, "an IndexOutOfBoundsException");
             }
         }
     }
