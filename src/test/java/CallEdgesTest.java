@@ -1,3 +1,6 @@
+import java.util.HashMap;
+import java.util.Map;
+
 /** The edges of promises 1 and 5 to 47, promise by promise: the last arguments that are allowed, those just beyond, and refused calls. */
 public final class CallEdgesTest {
     private static final Check check = new Check();
@@ -10,6 +13,14 @@ public final class CallEdgesTest {
     private static final int LEAST = Integer.MIN_VALUE;
     private static final int GREATEST = Integer.MAX_VALUE;
     private static final String SIX = "member a 1;member b 1;member c 1;member d 1;member e 1;member f 1;";
+
+    private static final Snapshot.Recipe NEW = LockstepRoom::new;
+    private static final Snapshot.Recipe BUSY = CallEdgesTest::busy;
+    private static final Snapshot.Recipe ALL = CallEdgesTest::full;
+    private static final Snapshot.Recipe NO_DONOR = CallEdgesTest::withoutDonor;
+
+    /** What these rooms are: a snapshot costs some thousand calls, and most of the tests need one. */
+    private static final Map<Snapshot.Recipe, String> known = new HashMap<>();
 
     /** What a call that must throw is due to answer here. */
     private static final int THROWS = 77;
@@ -90,6 +101,15 @@ public final class CallEdgesTest {
         return x;
     }
 
+    /** b is wrong at 1, where a and c win, who have gone on: nobody there can give it cells, nor to one who joins. */
+    private static LockstepRoom withoutDonor() {
+        LockstepRoom x = Check.loaded("member a 1;member b 1;member c 1;fault b 0 0 1;seal;seal;");
+        x.run(0, 2);
+        x.run(1, 1);
+        x.run(2, 2);
+        return x;
+    }
+
     // ---- helpers
 
     private static long answer(Snapshot.Step call, LockstepRoom x) {
@@ -108,7 +128,7 @@ public final class CallEdgesTest {
             answer(made, x);
             return x;
         };
-        check.due("the room behind " + call, Snapshot.of(behind), Snapshot.of(room));
+        check.due("the room behind " + call, Snapshot.of(behind), known.computeIfAbsent(room, Snapshot::of));
     }
 
     private interface OfOne {
@@ -143,34 +163,33 @@ public final class CallEdgesTest {
 
     private static void newObject() {
         check.about("Promise 1: a room without members, with initial settings, empty buffers and no changes to undo; all cells begin with 0");
-        Snapshot.Recipe empty = LockstepRoom::new;
         for (int what = 0; what < 4; what++) {
-            check.due("count(" + what + ")", empty.make().count(what), 0);
+            check.due("count(" + what + ")", NEW.make().count(what), 0);
         }
-        check.due("undoCount", empty.make().undoCount(), 0);
-        check.due("lag", empty.make().getSetting(LAG), 40);
-        check.due("quorum", empty.make().getSetting(QUORUM), 2);
-        check.due("outputAt(0)", empty.make().outputAt(0), NONE);
-        check.due("load(1)", empty.make().load(1), BAD);
-        check.due("errorPosition", empty.make().errorPosition(), NONE);
-        check.due("reached(false)", empty.make().reached(false), NONE);
-        check.due("reached(true)", empty.make().reached(true), NONE);
-        check.due("meanTurns", empty.make().meanTurns(), 0.0);
-        check.due("memberNamed(0)", empty.make().memberNamed(0), NONE);
+        check.due("undoCount", NEW.make().undoCount(), 0);
+        check.due("lag", NEW.make().getSetting(LAG), 40);
+        check.due("quorum", NEW.make().getSetting(QUORUM), 2);
+        check.due("outputAt(0)", NEW.make().outputAt(0), NONE);
+        check.due("load(1)", NEW.make().load(1), BAD);
+        check.due("errorPosition", NEW.make().errorPosition(), NONE);
+        check.due("reached(false)", NEW.make().reached(false), NONE);
+        check.due("reached(true)", NEW.make().reached(true), NONE);
+        check.due("meanTurns", NEW.make().meanTurns(), 0.0);
+        check.due("memberNamed(0)", NEW.make().memberNamed(0), NONE);
         for (int c = 0; c < 16; c++) {
-            check.due("truth(0, " + c + ")", empty.make().truth(0, c), 0);
+            check.due("truth(0, " + c + ")", NEW.make().truth(0, c), 0);
         }
-        refused("undo", empty, x -> x.undo(), NONE);
-        refused("healAll", empty, x -> x.healAll(), NONE);
-        refused("join", empty, x -> x.join(1), NOT_ALLOWED);
-        refused("heal", empty, x -> x.heal(0), NONE);
-        refused("leave", empty, x -> x.leave(0), NONE);
-        refused("run", empty, x -> x.run(0, 1), NONE);
-        refused("give", empty, x -> x.give(0, 0, 0, 0), NONE);
-        refused("fault", empty, x -> x.fault(0, 0, 0, 1), NONE);
-        refused("write", empty, x -> x.write(0), THROWS);
+        refused("undo", NEW, x -> x.undo(), NONE);
+        refused("healAll", NEW, x -> x.healAll(), NONE);
+        refused("join", NEW, x -> x.join(1), NOT_ALLOWED);
+        refused("heal", NEW, x -> x.heal(0), NONE);
+        refused("leave", NEW, x -> x.leave(0), NONE);
+        refused("run", NEW, x -> x.run(0, 1), NONE);
+        refused("give", NEW, x -> x.give(0, 0, 0, 0), NONE);
+        refused("fault", NEW, x -> x.fault(0, 0, 0, 1), NONE);
+        refused("write", NEW, x -> x.write(0), THROWS);
         // seals without members make turns all the same
-        LockstepRoom y = empty.make();
+        LockstepRoom y = NEW.make();
         check.due("seal", y.seal(), 1);
         check.due("truth(1, 0)", y.truth(1, 0), 0);
         check.due("load of members", Check.load(y, "member a 1;"), 1);
@@ -179,7 +198,7 @@ public final class CallEdgesTest {
 
     private static void count() {
         check.about("Promise 5: BAD_VALUE for any other what");
-        outside("count", CallEdgesTest::busy, (x, what) -> x.count(what), BAD, -1, 4, 5, LEAST, GREATEST);
+        outside("count", BUSY, (x, what) -> x.count(what), BAD, -1, 4, 5, LEAST, GREATEST);
         int[] busy = {4, 3, 2, 1};
         int[] full = {6, 40, 8, 10};
         for (int what = 0; what < 4; what++) {
@@ -228,12 +247,12 @@ public final class CallEdgesTest {
 
     private static void memberNumber() {
         check.about("Promise 8: BAD_VALUE for any other what; throws if member is not a valid index (checked first)");
-        outside("memberNumber(0, what)", CallEdgesTest::busy, (x, what) -> x.memberNumber(0, what), BAD, -1, 6, LEAST, GREATEST);
+        outside("memberNumber(0, what)", BUSY, (x, what) -> x.memberNumber(0, what), BAD, -1, 6, LEAST, GREATEST);
         for (int what : new int[] {-1, 0, 5, 6}) {
-            index("memberNumber(member, " + what + ")", CallEdgesTest::busy, (x, m) -> x.memberNumber(m, what), 4);
+            index("memberNumber(member, " + what + ")", BUSY, (x, m) -> x.memberNumber(m, what), 4);
         }
-        index("memberNumber(member, 6) of a full room", CallEdgesTest::full, (x, m) -> x.memberNumber(m, 6), 6);
-        index("memberNumber(member, 6) of a new room", LockstepRoom::new, (x, m) -> x.memberNumber(m, 6), 0);
+        index("memberNumber(member, 6) of a full room", ALL, (x, m) -> x.memberNumber(m, 6), 6);
+        index("memberNumber(member, 6) of a new room", NEW, (x, m) -> x.memberNumber(m, 6), 0);
         int[][] due = {{1, 3, 1, 16, 0, 0}, {2, 3, 1, 0, 0, 0}, {1, 2, 0, 0, 0, 0}, {3, 2, 1, 0, 16, 0}};
         for (int m = 0; m < 4; m++) {
             for (int what = 0; what < 6; what++) {
@@ -244,26 +263,26 @@ public final class CallEdgesTest {
 
     private static void getSetting() {
         check.about("Promise 9: BAD_VALUE if setting is neither");
-        outside("getSetting", CallEdgesTest::busy, (x, setting) -> x.getSetting(setting), BAD, -1, 2, LEAST, GREATEST);
+        outside("getSetting", BUSY, (x, setting) -> x.getSetting(setting), BAD, -1, 2, LEAST, GREATEST);
         check.due("lag", busy().getSetting(LAG), 20);
         check.due("quorum", busy().getSetting(QUORUM), 1);
     }
 
     private static void cellOf() {
         check.about("Promise 10: throws if member or cell is not a valid index");
-        index("cellOf(member, 0)", CallEdgesTest::busy, (x, m) -> x.cellOf(m, 0), 4);
-        index("cellOf(member, 15)", CallEdgesTest::full, (x, m) -> x.cellOf(m, 15), 6);
-        index("cellOf(0, cell)", CallEdgesTest::busy, (x, c) -> x.cellOf(0, c), 16);
-        index("cellOf(3, cell)", CallEdgesTest::busy, (x, c) -> x.cellOf(3, c), 16);
-        refused("cellOf(9, 16)", CallEdgesTest::busy, x -> x.cellOf(9, 16), THROWS);
-        refused("cellOf(0, 0) of a new room", LockstepRoom::new, x -> x.cellOf(0, 0), THROWS);
+        index("cellOf(member, 0)", BUSY, (x, m) -> x.cellOf(m, 0), 4);
+        index("cellOf(member, 15)", ALL, (x, m) -> x.cellOf(m, 15), 6);
+        index("cellOf(0, cell)", BUSY, (x, c) -> x.cellOf(0, c), 16);
+        index("cellOf(3, cell)", BUSY, (x, c) -> x.cellOf(3, c), 16);
+        refused("cellOf(9, 16)", BUSY, x -> x.cellOf(9, 16), THROWS);
+        refused("cellOf(0, 0) of a new room", NEW, x -> x.cellOf(0, 0), THROWS);
     }
 
     private static void commandCount() {
         check.about("Promise 11: throws if turn is not a valid index");
-        index("commandCount", LockstepRoom::new, (x, turn) -> x.commandCount(turn), 0);
-        index("commandCount", CallEdgesTest::busy, (x, turn) -> x.commandCount(turn), 3);
-        index("commandCount", CallEdgesTest::full, (x, turn) -> x.commandCount(turn), 40);
+        index("commandCount", NEW, (x, turn) -> x.commandCount(turn), 0);
+        index("commandCount", BUSY, (x, turn) -> x.commandCount(turn), 3);
+        index("commandCount", ALL, (x, turn) -> x.commandCount(turn), 40);
         int[] due = {1, 2, 0};
         for (int turn = 0; turn < 3; turn++) {
             check.due("commandCount(" + turn + ")", busy().commandCount(turn), due[turn]);
@@ -280,15 +299,15 @@ public final class CallEdgesTest {
         check.about("Promise 12: throws if turn is not a valid index (checked first of all); NOT_FOUND if there is no such command (checked first); BAD_VALUE for any other what");
         for (int k : new int[] {-1, 0, 1, 2}) {
             for (int what : new int[] {-1, 0, 3, 4}) {
-                index("command(turn, " + k + ", " + what + ")", CallEdgesTest::busy, (x, turn) -> x.command(turn, k, what), 3);
+                index("command(turn, " + k + ", " + what + ")", BUSY, (x, turn) -> x.command(turn, k, what), 3);
             }
         }
         for (int what : new int[] {-1, 0, 3, 4, LEAST, GREATEST}) {
-            outside("command(0, k, " + what + ")", CallEdgesTest::busy, (x, k) -> x.command(0, k, what), NONE, -1, 1, 8, LEAST, GREATEST);
-            outside("command(1, k, " + what + ")", CallEdgesTest::busy, (x, k) -> x.command(1, k, what), NONE, -1, 2, 8, LEAST, GREATEST);
-            outside("command(2, k, " + what + ")", CallEdgesTest::busy, (x, k) -> x.command(2, k, what), NONE, -1, 0, 8, LEAST, GREATEST);
+            outside("command(0, k, " + what + ")", BUSY, (x, k) -> x.command(0, k, what), NONE, -1, 1, 8, LEAST, GREATEST);
+            outside("command(1, k, " + what + ")", BUSY, (x, k) -> x.command(1, k, what), NONE, -1, 2, 8, LEAST, GREATEST);
+            outside("command(2, k, " + what + ")", BUSY, (x, k) -> x.command(2, k, what), NONE, -1, 0, 8, LEAST, GREATEST);
         }
-        outside("command(1, 1, what)", CallEdgesTest::busy, (x, what) -> x.command(1, 1, what), BAD, -1, 4, LEAST, GREATEST);
+        outside("command(1, 1, what)", BUSY, (x, what) -> x.command(1, 1, what), BAD, -1, 4, LEAST, GREATEST);
         int[][] due = {{0, LockstepRoom.COPY, 15, 0}, {1, LockstepRoom.MUL, 1, 1}};
         for (int k = 0; k < 2; k++) {
             for (int what = 0; what < 4; what++) {
@@ -307,12 +326,12 @@ public final class CallEdgesTest {
     private static void faultNumber() {
         check.about("Promise 13: throws if fault is not a valid index (checked first); BAD_VALUE for any other what");
         for (int what : new int[] {-1, 0, 3, 4}) {
-            index("faultNumber(fault, " + what + ")", LockstepRoom::new, (x, f) -> x.faultNumber(f, what), 0);
-            index("faultNumber(fault, " + what + ")", CallEdgesTest::busy, (x, f) -> x.faultNumber(f, what), 1);
-            index("faultNumber(fault, " + what + ")", CallEdgesTest::full, (x, f) -> x.faultNumber(f, what), 10);
+            index("faultNumber(fault, " + what + ")", NEW, (x, f) -> x.faultNumber(f, what), 0);
+            index("faultNumber(fault, " + what + ")", BUSY, (x, f) -> x.faultNumber(f, what), 1);
+            index("faultNumber(fault, " + what + ")", ALL, (x, f) -> x.faultNumber(f, what), 10);
         }
-        outside("faultNumber(0, what)", CallEdgesTest::busy, (x, what) -> x.faultNumber(0, what), BAD, -1, 4, LEAST, GREATEST);
-        outside("faultNumber(9, what)", CallEdgesTest::full, (x, what) -> x.faultNumber(9, what), BAD, -1, 4, LEAST, GREATEST);
+        outside("faultNumber(0, what)", BUSY, (x, what) -> x.faultNumber(0, what), BAD, -1, 4, LEAST, GREATEST);
+        outside("faultNumber(9, what)", ALL, (x, what) -> x.faultNumber(9, what), BAD, -1, 4, LEAST, GREATEST);
         int[] due = {0, 9, 5, 5};
         for (int what = 0; what < 4; what++) {
             check.due("faultNumber(0, " + what + ")", busy().faultNumber(0, what), due[what]);
@@ -321,12 +340,12 @@ public final class CallEdgesTest {
 
     private static void checksum() {
         check.about("Promise 14: BAD_VALUE if there is no such node; throws if member is not a valid index (checked first)");
-        outside("checksum(0, node)", CallEdgesTest::busy, (x, node) -> x.checksum(0, node), BAD, -1, 0, 32, 33, LEAST, GREATEST);
-        outside("checksum(5, node)", CallEdgesTest::full, (x, node) -> x.checksum(5, node), BAD, -1, 0, 32, 33, LEAST, GREATEST);
+        outside("checksum(0, node)", BUSY, (x, node) -> x.checksum(0, node), BAD, -1, 0, 32, 33, LEAST, GREATEST);
+        outside("checksum(5, node)", ALL, (x, node) -> x.checksum(5, node), BAD, -1, 0, 32, 33, LEAST, GREATEST);
         for (int node : new int[] {0, 1, 31, 32}) {
-            index("checksum(member, " + node + ")", CallEdgesTest::busy, (x, m) -> x.checksum(m, node), 4);
+            index("checksum(member, " + node + ")", BUSY, (x, m) -> x.checksum(m, node), 4);
         }
-        index("checksum(member, 1) of a new room", LockstepRoom::new, (x, m) -> x.checksum(m, 1), 0);
+        index("checksum(member, 1) of a new room", NEW, (x, m) -> x.checksum(m, 1), 0);
         check.due("checksum(0, 31)", busy().checksum(0, 31), 40503 * busy().cellOf(0, 15) + 977 * 15 + 1);
         check.due("checksum(0, 16)", busy().checksum(0, 16), 40503 * busy().cellOf(0, 0) + 1);
         check.due("checksum(0, 1)", busy().checksum(0, 1), busy().rootAt(0, 3));
@@ -334,12 +353,12 @@ public final class CallEdgesTest {
 
     private static void rootAt() {
         check.about("Promise 15: NOT_FOUND if the record of the member does not have it; throws if member is not a valid index");
-        outside("rootAt(0, turn)", CallEdgesTest::busy, (x, turn) -> x.rootAt(0, turn), NONE, -1, 4, 40, 41, LEAST, GREATEST);
-        outside("rootAt(1, turn)", CallEdgesTest::busy, (x, turn) -> x.rootAt(1, turn), NONE, -1, 4, 40, 41, LEAST, GREATEST);
-        outside("rootAt(2, turn), of one who left", CallEdgesTest::busy, (x, turn) -> x.rootAt(2, turn), NONE, -1, 3, LEAST, GREATEST);
-        outside("rootAt(3, turn), of one who joined", CallEdgesTest::busy, (x, turn) -> x.rootAt(3, turn), NONE, -1, 0, 1, 3, LEAST, GREATEST);
+        outside("rootAt(0, turn)", BUSY, (x, turn) -> x.rootAt(0, turn), NONE, -1, 4, 40, 41, LEAST, GREATEST);
+        outside("rootAt(1, turn)", BUSY, (x, turn) -> x.rootAt(1, turn), NONE, -1, 4, 40, 41, LEAST, GREATEST);
+        outside("rootAt(2, turn), of one who left", BUSY, (x, turn) -> x.rootAt(2, turn), NONE, -1, 3, LEAST, GREATEST);
+        outside("rootAt(3, turn), of one who joined", BUSY, (x, turn) -> x.rootAt(3, turn), NONE, -1, 0, 1, 3, LEAST, GREATEST);
         for (int turn : new int[] {-1, 0, 99}) {
-            index("rootAt(member, " + turn + ")", CallEdgesTest::busy, (x, m) -> x.rootAt(m, turn), 4);
+            index("rootAt(member, " + turn + ")", BUSY, (x, m) -> x.rootAt(m, turn), 4);
         }
         check.due("rootAt(3, 2)", busy().rootAt(3, 2), busy().rootAt(0, 2));
         check.due("rootAt(0, 3)", busy().rootAt(0, 3), busy().checksum(0, 1));
@@ -358,11 +377,11 @@ public final class CallEdgesTest {
         for (int k = 0; k < calls.length; k++) {
             OfTwo call = calls[k];
             for (int valid : new int[] {0, 3}) {
-                index("call " + k + " (member, " + valid + ")", CallEdgesTest::busy, (x, m) -> call.answer(x, m, valid), 4);
-                index("call " + k + " (" + valid + ", member)", CallEdgesTest::busy, (x, m) -> call.answer(x, valid, m), 4);
+                index("call " + k + " (member, " + valid + ")", BUSY, (x, m) -> call.answer(x, m, valid), 4);
+                index("call " + k + " (" + valid + ", member)", BUSY, (x, m) -> call.answer(x, valid, m), 4);
             }
-            refused("call " + k + " of none", LockstepRoom::new, x -> call.answer(x, 0, 0), THROWS);
-            refused("call " + k + " of two that are none", CallEdgesTest::busy, x -> call.answer(x, -1, 4), THROWS);
+            refused("call " + k + " of none", NEW, x -> call.answer(x, 0, 0), THROWS);
+            refused("call " + k + " of two that are none", BUSY, x -> call.answer(x, -1, 4), THROWS);
             for (int m = 0; m < 4; m++) {
                 check.due("call " + k + " of " + m + " and itself", call.answer(busy(), m, m), same[k]);
             }
@@ -389,10 +408,10 @@ public final class CallEdgesTest {
     private static void votes() {
         check.about("Promise 22: NOT_FOUND if the record of the member does not have it; throws if member is not a valid index");
         for (int turn : new int[] {-1, 0, 99}) {
-            index("votes(member, " + turn + ")", CallEdgesTest::busy, (x, m) -> x.votes(m, turn), 4);
+            index("votes(member, " + turn + ")", BUSY, (x, m) -> x.votes(m, turn), 4);
         }
-        outside("votes(0, turn)", CallEdgesTest::busy, (x, turn) -> x.votes(0, turn), NONE, -1, 4, 40, 41, LEAST, GREATEST);
-        outside("votes(3, turn)", CallEdgesTest::busy, (x, turn) -> x.votes(3, turn), NONE, -1, 0, 1, 3, LEAST, GREATEST);
+        outside("votes(0, turn)", BUSY, (x, turn) -> x.votes(0, turn), NONE, -1, 4, 40, 41, LEAST, GREATEST);
+        outside("votes(3, turn)", BUSY, (x, turn) -> x.votes(3, turn), NONE, -1, 0, 1, 3, LEAST, GREATEST);
         // a and b are active at 0, c left: it is not counted, but has its record
         check.due("votes(0, 0)", busy().votes(0, 0), 2);
         check.due("votes(2, 0)", busy().votes(2, 0), 2);
@@ -408,9 +427,9 @@ public final class CallEdgesTest {
 
     private static void winner() {
         check.about("Promise 23: NOT_FOUND if there is no vote");
-        outside("winner", CallEdgesTest::busy, (x, turn) -> x.winner(turn), NONE, -1, 4, 40, 41, LEAST, GREATEST);
-        outside("winner", CallEdgesTest::full, (x, turn) -> x.winner(turn), NONE, -1, 4, 40, 41, LEAST, GREATEST);
-        outside("winner", LockstepRoom::new, (x, turn) -> x.winner(turn), NONE, -1, 0, 1, LEAST, GREATEST);
+        outside("winner", BUSY, (x, turn) -> x.winner(turn), NONE, -1, 4, 40, 41, LEAST, GREATEST);
+        outside("winner", ALL, (x, turn) -> x.winner(turn), NONE, -1, 4, 40, 41, LEAST, GREATEST);
+        outside("winner", NEW, (x, turn) -> x.winner(turn), NONE, -1, 0, 1, LEAST, GREATEST);
         LockstepRoom x = Check.loaded("set quorum 1;member a 1;" + "seal;".repeat(40));
         x.run(0, 40);
         check.due("winner(0)", x.winner(0), 0);
@@ -420,9 +439,9 @@ public final class CallEdgesTest {
 
     private static void wrong() {
         check.about("Promises 24 and 25: throws if member is not a valid index; the members as a bit set");
-        index("isWrong", CallEdgesTest::busy, (x, m) -> number(x.isWrong(m)), 4);
-        index("isWrong", CallEdgesTest::full, (x, m) -> number(x.isWrong(m)), 6);
-        index("isWrong", LockstepRoom::new, (x, m) -> number(x.isWrong(m)), 0);
+        index("isWrong", BUSY, (x, m) -> number(x.isWrong(m)), 4);
+        index("isWrong", ALL, (x, m) -> number(x.isWrong(m)), 6);
+        index("isWrong", NEW, (x, m) -> number(x.isWrong(m)), 0);
         for (int wrong = 0; wrong < 64; wrong++) {
             StringBuilder text = new StringBuilder(SIX + "set quorum 1;seal;");
             for (int m = 0; m < 6; m++) {
@@ -430,8 +449,8 @@ public final class CallEdgesTest {
             }
             LockstepRoom x = Check.loaded(text.toString());
             x.tick();
-            // those without a fault win, unless there is none: then a wins
-            int due = wrong == 63 ? 62 : Integer.bitCount(wrong) == 5 && (wrong & 1) != 0 ? 62 : wrong;
+            // those without a fault win; where each one is a group of its own, a wins
+            int due = Integer.bitCount(wrong) >= 5 ? 62 : wrong;
             check.due("wrongMembers of " + wrong, x.wrongMembers(), due);
             for (int m = 0; m < 6; m++) {
                 check.due("isWrong(" + m + ") of " + wrong, x.isWrong(m), (due >> m & 1) != 0);
@@ -441,9 +460,9 @@ public final class CallEdgesTest {
 
     private static void donorFor() {
         check.about("Promise 26: NOT_FOUND if there is none; throws if member is not a valid index");
-        index("donorFor", CallEdgesTest::busy, (x, m) -> x.donorFor(m), 4);
-        index("donorFor", CallEdgesTest::full, (x, m) -> x.donorFor(m), 6);
-        index("donorFor", LockstepRoom::new, (x, m) -> x.donorFor(m), 0);
+        index("donorFor", BUSY, (x, m) -> x.donorFor(m), 4);
+        index("donorFor", ALL, (x, m) -> x.donorFor(m), 6);
+        index("donorFor", NEW, (x, m) -> x.donorFor(m), 0);
         // a and b are at 3, with other cells: a wins; d alone is at 2 and active, c left there
         int[] due = {NONE, 0, 3, NONE};
         for (int m = 0; m < 4; m++) {
@@ -453,8 +472,8 @@ public final class CallEdgesTest {
 
     private static void whyNot() {
         check.about("Promise 27: the first of these reasons that applies; throws if member is not a valid index");
-        index("whyNot", CallEdgesTest::busy, (x, m) -> x.whyNot(m), 4);
-        index("whyNot", LockstepRoom::new, (x, m) -> x.whyNot(m), 0);
+        index("whyNot", BUSY, (x, m) -> x.whyNot(m), 4);
+        index("whyNot", NEW, (x, m) -> x.whyNot(m), 0);
         Snapshot.Recipe room = () -> {
             LockstepRoom x = Check.loaded(SIX + "set quorum 3;fault b 0 0 1;seal;seal;");
             x.tick();
@@ -510,9 +529,9 @@ public final class CallEdgesTest {
 
     private static void mayRun() {
         check.about("Promise 29: 0 also if it has come further than it may by now; 0 if it left; throws if member is not a valid index");
-        index("mayRun", CallEdgesTest::busy, (x, m) -> x.mayRun(m), 4);
-        index("mayRun", CallEdgesTest::full, (x, m) -> x.mayRun(m), 6);
-        index("mayRun", LockstepRoom::new, (x, m) -> x.mayRun(m), 0);
+        index("mayRun", BUSY, (x, m) -> x.mayRun(m), 4);
+        index("mayRun", ALL, (x, m) -> x.mayRun(m), 6);
+        index("mayRun", NEW, (x, m) -> x.mayRun(m), 0);
         int[] full = {37, 38, 40, 40, 0, 0};
         for (int m = 0; m < 6; m++) {
             check.due("mayRun(" + m + ") of a full room", full().mayRun(m), full[m]);
@@ -548,12 +567,12 @@ public final class CallEdgesTest {
     private static void truth() {
         check.about("Promise 31: NOT_FOUND if turn is out of range; throws if cell is not a valid index (checked first)");
         for (int turn : new int[] {-1, 0, 3, 4}) {
-            index("truth(" + turn + ", cell)", CallEdgesTest::busy, (x, c) -> x.truth(turn, c), 16);
+            index("truth(" + turn + ", cell)", BUSY, (x, c) -> x.truth(turn, c), 16);
         }
         for (int cell : new int[] {0, 15}) {
-            outside("truth(turn, " + cell + ")", CallEdgesTest::busy, (x, turn) -> x.truth(turn, cell), NONE, -1, 4, 41, LEAST, GREATEST);
-            outside("truth(turn, " + cell + ")", CallEdgesTest::full, (x, turn) -> x.truth(turn, cell), NONE, -1, 41, LEAST, GREATEST);
-            outside("truth(turn, " + cell + ")", LockstepRoom::new, (x, turn) -> x.truth(turn, cell), NONE, -1, 1, LEAST, GREATEST);
+            outside("truth(turn, " + cell + ")", BUSY, (x, turn) -> x.truth(turn, cell), NONE, -1, 4, 41, LEAST, GREATEST);
+            outside("truth(turn, " + cell + ")", ALL, (x, turn) -> x.truth(turn, cell), NONE, -1, 41, LEAST, GREATEST);
+            outside("truth(turn, " + cell + ")", NEW, (x, turn) -> x.truth(turn, cell), NONE, -1, 1, LEAST, GREATEST);
         }
         int[] cell0 = {5, 6, 6, 6};
         int[] cell1 = {6, 6, 36, 36};
@@ -572,6 +591,18 @@ public final class CallEdgesTest {
         check.due("of nobody", new LockstepRoom().trueMembers(), 0);
         check.due("of a busy room", busy().trueMembers(), 1 | 4 | 8);
         check.due("of a full room", full().trueMembers(), 63);
+        // the truth is another one behind each turn: a has it behind its own number of turns, b that of another number
+        LockstepRoom y = Check.loaded("member a 1;member b 1;fault b 0 0 1;fault b 1 0 9998;" + "do a add 0 1;seal;".repeat(4));
+        check.due("at 0 and 0", y.trueMembers(), 3);
+        y.run(1, 1);
+        check.due("at 0 and 1", y.trueMembers(), 1);
+        y.run(0, 1);
+        check.due("at 1 and 1", y.trueMembers(), 1);
+        y.run(1, 1);
+        check.due("at 1 and 2", y.trueMembers(), 1);
+        check.due("cell of b", y.cellOf(1, 0), 1);
+        y.run(0, 3);
+        check.due("at 4 and 2", y.trueMembers(), 1);
         for (int cell = 0; cell < 16; cell++) {
             LockstepRoom x = Check.loaded("member a 1;member b 1;" + "fault a 39 " + cell + " 1;" + "seal;".repeat(40));
             x.run(0, 39);
@@ -585,11 +616,11 @@ public final class CallEdgesTest {
 
     private static void foreseen() {
         check.about("Promise 33: throws if member or cell is not a valid index");
-        index("foreseen(member, 0)", CallEdgesTest::busy, (x, m) -> x.foreseen(m, 0), 4);
-        index("foreseen(member, 15)", CallEdgesTest::full, (x, m) -> x.foreseen(m, 15), 6);
-        index("foreseen(0, cell)", CallEdgesTest::busy, (x, c) -> x.foreseen(0, c), 16);
-        index("foreseen(3, cell)", CallEdgesTest::busy, (x, c) -> x.foreseen(3, c), 16);
-        refused("foreseen(9, 16)", CallEdgesTest::busy, x -> x.foreseen(9, 16), THROWS);
+        index("foreseen(member, 0)", BUSY, (x, m) -> x.foreseen(m, 0), 4);
+        index("foreseen(member, 15)", ALL, (x, m) -> x.foreseen(m, 15), 6);
+        index("foreseen(0, cell)", BUSY, (x, c) -> x.foreseen(0, c), 16);
+        index("foreseen(3, cell)", BUSY, (x, c) -> x.foreseen(3, c), 16);
+        refused("foreseen(9, 16)", BUSY, x -> x.foreseen(9, 16), THROWS);
         check.about("Promise 33: what a cell of a member would be if it executed all turns that are sealed, with the faults that wait for it");
         LockstepRoom x = Check.loaded("start 9999;member a 1;set lag 1;fault a 0 0 1;fault a 39 0 9998;fault a 39 0 1;" + "do a add 1 300;seal;".repeat(40));
         check.due("modulo 10000, though lag is 1", x.foreseen(0, 0), 9999);
@@ -608,10 +639,10 @@ public final class CallEdgesTest {
 
     private static void lastWrite() {
         check.about("Promise 34: NOT_FOUND if there is none; throws if member or cell is not a valid index");
-        index("lastWrite(member, 0)", CallEdgesTest::busy, (x, m) -> x.lastWrite(m, 0), 4);
-        index("lastWrite(member, 15)", CallEdgesTest::full, (x, m) -> x.lastWrite(m, 15), 6);
-        index("lastWrite(0, cell)", CallEdgesTest::busy, (x, c) -> x.lastWrite(0, c), 16);
-        refused("lastWrite(9, 16)", CallEdgesTest::busy, x -> x.lastWrite(9, 16), THROWS);
+        index("lastWrite(member, 0)", BUSY, (x, m) -> x.lastWrite(m, 0), 4);
+        index("lastWrite(member, 15)", ALL, (x, m) -> x.lastWrite(m, 15), 6);
+        index("lastWrite(0, cell)", BUSY, (x, c) -> x.lastWrite(0, c), 16);
+        refused("lastWrite(9, 16)", BUSY, x -> x.lastWrite(9, 16), THROWS);
         check.due("lastWrite(3, 0), ahead of joining", busy().lastWrite(3, 0), 0);
         check.due("lastWrite(3, 15), ahead of joining", busy().lastWrite(3, 15), 1);
         check.due("lastWrite(3, 4), by a fault alone", busy().lastWrite(1, 4), NONE);
@@ -629,23 +660,23 @@ public final class CallEdgesTest {
         check.about("Promise 35: NOT_FOUND if author is not a valid index; BAD_VALUE if sort, cell or operand is out of range; NOT_ALLOWED if the author left; FULL if the open turn has 8 commands; checked in this order");
         // in a full room all four apply to those who left, and the last one to those who are active
         for (int author : new int[] {-1, 6, LEAST, GREATEST}) {
-            refused("give by " + author, CallEdgesTest::full, x -> x.give(author, 6, 16, -1), NONE);
-            refused("give by " + author, CallEdgesTest::full, x -> x.give(author, 0, 0, 0), NONE);
+            refused("give by " + author, ALL, x -> x.give(author, 6, 16, -1), NONE);
+            refused("give by " + author, ALL, x -> x.give(author, 0, 0, 0), NONE);
         }
-        refused("give by one that is none", CallEdgesTest::busy, x -> x.give(4, 0, 0, 0), NONE);
+        refused("give by one that is none", BUSY, x -> x.give(4, 0, 0, 0), NONE);
         for (int author : new int[] {0, 5}) {
-            outside("give of sort", CallEdgesTest::full, (x, sort) -> x.give(author, sort, 0, 0), BAD, -1, 6, LEAST, GREATEST);
-            outside("give of cell", CallEdgesTest::full, (x, cell) -> x.give(author, 0, cell, 0), BAD, -1, 16, LEAST, GREATEST);
+            outside("give of sort", ALL, (x, sort) -> x.give(author, sort, 0, 0), BAD, -1, 6, LEAST, GREATEST);
+            outside("give of cell", ALL, (x, cell) -> x.give(author, 0, cell, 0), BAD, -1, 16, LEAST, GREATEST);
             for (int sort = 0; sort < 6; sort++) {
                 int of = sort;
                 int greatest = sort < 2 ? 9999 : 15;
-                outside("give of sort " + of + " with operand", CallEdgesTest::full, (x, operand) -> x.give(author, of, 0, operand), BAD, -1, greatest + 1, LEAST, GREATEST);
-                refused("give by " + author + " of sort " + of, CallEdgesTest::full, x -> x.give(author, of, 15, greatest), author == 5 ? NOT_ALLOWED : FULL);
+                outside("give of sort " + of + " with operand", ALL, (x, operand) -> x.give(author, of, 0, operand), BAD, -1, greatest + 1, LEAST, GREATEST);
+                refused("give by " + author + " of sort " + of, ALL, x -> x.give(author, of, 15, greatest), author == 5 ? NOT_ALLOWED : FULL);
             }
         }
-        outside("give of operand", CallEdgesTest::busy, (x, operand) -> x.give(0, LockstepRoom.PUT, 0, operand), BAD, -1, 10000);
-        outside("give of operand", CallEdgesTest::busy, (x, operand) -> x.give(0, LockstepRoom.SWAP, 0, operand), BAD, -1, 16);
-        refused("give by one who left", CallEdgesTest::busy, x -> x.give(2, 0, 0, 0), NOT_ALLOWED);
+        outside("give of operand", BUSY, (x, operand) -> x.give(0, LockstepRoom.PUT, 0, operand), BAD, -1, 10000);
+        outside("give of operand", BUSY, (x, operand) -> x.give(0, LockstepRoom.SWAP, 0, operand), BAD, -1, 16);
+        refused("give by one who left", BUSY, x -> x.give(2, 0, 0, 0), NOT_ALLOWED);
         for (int sort = 0; sort < 6; sort++) {
             int greatest = sort < 2 ? 9999 : 15;
             LockstepRoom x = Check.loaded("member a 1;member b 1;");
@@ -662,7 +693,7 @@ public final class CallEdgesTest {
 
     private static void seal() {
         check.about("Promise 36: FULL if there are 40 already");
-        refused("seal", CallEdgesTest::full, x -> x.seal(), FULL);
+        refused("seal", ALL, x -> x.seal(), FULL);
         LockstepRoom x = Check.loaded("seal;".repeat(39));
         check.due("a 40th", x.seal(), 40);
         check.due("a 41st", x.seal(), FULL);
@@ -678,14 +709,14 @@ public final class CallEdgesTest {
     private static void run() {
         check.about("Promise 37: NOT_FOUND if member is not a valid index; BAD_VALUE if turns is out of range; NOT_ALLOWED if it left; checked in this order");
         for (int member : new int[] {-1, 4, LEAST, GREATEST}) {
-            refused("run of " + member, CallEdgesTest::busy, x -> x.run(member, 0), NONE);
-            refused("run of " + member, CallEdgesTest::busy, x -> x.run(member, 1), NONE);
+            refused("run of " + member, BUSY, x -> x.run(member, 0), NONE);
+            refused("run of " + member, BUSY, x -> x.run(member, 1), NONE);
         }
         for (int member : new int[] {1, 2}) {
-            outside("run(" + member + ", turns)", CallEdgesTest::busy, (x, turns) -> x.run(member, turns), BAD, -1, 0, 41, LEAST, GREATEST);
+            outside("run(" + member + ", turns)", BUSY, (x, turns) -> x.run(member, turns), BAD, -1, 0, 41, LEAST, GREATEST);
         }
-        refused("run of one who left", CallEdgesTest::busy, x -> x.run(2, 1), NOT_ALLOWED);
-        refused("run of one who left", CallEdgesTest::busy, x -> x.run(2, 40), NOT_ALLOWED);
+        refused("run of one who left", BUSY, x -> x.run(2, 1), NOT_ALLOWED);
+        refused("run of one who left", BUSY, x -> x.run(2, 40), NOT_ALLOWED);
         check.about("Promise 37: as many as told, but at most as many as it may");
         for (int turns : new int[] {1, 2, 39, 40}) {
             LockstepRoom x = Check.loaded("member a 1;" + "do a add 0 1;seal;".repeat(39));
@@ -724,21 +755,21 @@ public final class CallEdgesTest {
     private static void fault() {
         check.about("Promise 39: NOT_FOUND if member is not a valid index; BAD_VALUE if turn, cell or amount is out of range; NOT_ALLOWED if the member left or has executed the turn; FULL if 10 faults are waiting; checked in this order");
         for (int member : new int[] {-1, 6, LEAST, GREATEST}) {
-            refused("fault of " + member, CallEdgesTest::full, x -> x.fault(member, 40, 16, 0), NONE);
-            refused("fault of " + member, CallEdgesTest::full, x -> x.fault(member, 39, 0, 1), NONE);
+            refused("fault of " + member, ALL, x -> x.fault(member, 40, 16, 0), NONE);
+            refused("fault of " + member, ALL, x -> x.fault(member, 39, 0, 1), NONE);
         }
         // 0 has executed three turns, 5 left
         for (int member : new int[] {0, 5}) {
-            outside("fault in turn", CallEdgesTest::full, (x, turn) -> x.fault(member, turn, 0, 1), BAD, -1, 40, LEAST, GREATEST);
-            outside("fault of cell", CallEdgesTest::full, (x, cell) -> x.fault(member, 0, cell, 1), BAD, -1, 16, LEAST, GREATEST);
-            outside("fault of amount", CallEdgesTest::full, (x, amount) -> x.fault(member, 0, 0, amount), BAD, -1, 0, 10000, LEAST, GREATEST);
+            outside("fault in turn", ALL, (x, turn) -> x.fault(member, turn, 0, 1), BAD, -1, 40, LEAST, GREATEST);
+            outside("fault of cell", ALL, (x, cell) -> x.fault(member, 0, cell, 1), BAD, -1, 16, LEAST, GREATEST);
+            outside("fault of amount", ALL, (x, amount) -> x.fault(member, 0, 0, amount), BAD, -1, 0, 10000, LEAST, GREATEST);
         }
-        outside("fault in a turn of one who left", CallEdgesTest::full, (x, turn) -> x.fault(5, turn, 0, 1), NOT_ALLOWED, 0, 39);
-        outside("fault in a turn that it has executed", CallEdgesTest::full, (x, turn) -> x.fault(0, turn, 0, 1), NOT_ALLOWED, 0, 1, 2);
-        outside("an 11th fault", CallEdgesTest::full, (x, turn) -> x.fault(0, turn, 0, 1), FULL, 3, 4, 39);
-        outside("fault of amount", CallEdgesTest::busy, (x, amount) -> x.fault(1, 39, 0, amount), BAD, 0, 10000);
+        outside("fault in a turn of one who left", ALL, (x, turn) -> x.fault(5, turn, 0, 1), NOT_ALLOWED, 0, 39);
+        outside("fault in a turn that it has executed", ALL, (x, turn) -> x.fault(0, turn, 0, 1), NOT_ALLOWED, 0, 1, 2);
+        outside("an 11th fault", ALL, (x, turn) -> x.fault(0, turn, 0, 1), FULL, 3, 4, 39);
+        outside("fault of amount", BUSY, (x, amount) -> x.fault(1, 39, 0, amount), BAD, 0, 10000);
         // one who joined at 2: the turns ahead of this count as executed
-        outside("fault of one who joined in turn", CallEdgesTest::busy, (x, turn) -> x.fault(3, turn, 0, 1), NOT_ALLOWED, 0, 1);
+        outside("fault of one who joined in turn", BUSY, (x, turn) -> x.fault(3, turn, 0, 1), NOT_ALLOWED, 0, 1);
         check.due("fault of one who joined in turn 2", busy().fault(3, 2, 0, 1), 2);
         for (int[] f : new int[][] {{3, 0, 1}, {39, 15, 9999}, {39, 0, 9999}, {3, 15, 1}}) {
             LockstepRoom x = full();
@@ -760,35 +791,36 @@ public final class CallEdgesTest {
     private static void heal() {
         check.about("Promise 40: NOT_FOUND if member is not a valid index; NOT_ALLOWED if it cannot be healed (see whyNot)");
         for (int member : new int[] {-1, 4, LEAST, GREATEST}) {
-            refused("heal of " + member, CallEdgesTest::busy, x -> x.heal(member), NONE);
+            refused("heal of " + member, BUSY, x -> x.heal(member), NONE);
         }
-        refused("heal of one who is not wrong", CallEdgesTest::busy, x -> x.heal(0), NOT_ALLOWED);
-        refused("heal of one who left", CallEdgesTest::busy, x -> x.heal(2), NOT_ALLOWED);
-        refused("heal of one who joined and is not wrong", CallEdgesTest::busy, x -> x.heal(3), NOT_ALLOWED);
-        refused("heal without a vote", Snapshot.then(CallEdgesTest::busy, x -> x.setSetting(QUORUM, 6)), x -> x.heal(1), NOT_ALLOWED);
-        refused("heal without a donor", CallEdgesTest::withoutDonor, x -> x.heal(1), NOT_ALLOWED);
+        refused("heal of one who is not wrong", BUSY, x -> x.heal(0), NOT_ALLOWED);
+        refused("heal of one who left", BUSY, x -> x.heal(2), NOT_ALLOWED);
+        refused("heal of one who joined and is not wrong", BUSY, x -> x.heal(3), NOT_ALLOWED);
+        refused("heal without a vote", Snapshot.then(BUSY, x -> x.setSetting(QUORUM, 6)), x -> x.heal(1), NOT_ALLOWED);
+        check.due("whyNot", NO_DONOR.make().whyNot(1), 4);
+        refused("heal without a donor", NO_DONOR, x -> x.heal(1), NOT_ALLOWED);
         check.due("heal", busy().heal(1), 1);
-        refused("heal once more", Snapshot.then(CallEdgesTest::busy, x -> x.heal(1)), x -> x.heal(1), NOT_ALLOWED);
-    }
-
-    /** b is wrong at 1, where a and c win, who have gone on. */
-    private static LockstepRoom withoutDonor() {
-        LockstepRoom x = Check.loaded("member a 1;member b 1;member c 1;fault b 0 0 1;seal;seal;");
-        x.run(0, 2);
-        x.run(1, 1);
-        x.run(2, 2);
-        check.due("whyNot", x.whyNot(1), 4);
-        return x;
+        refused("heal once more", Snapshot.then(BUSY, x -> x.heal(1)), x -> x.heal(1), NOT_ALLOWED);
     }
 
     private static void healAll() {
         check.about("Promise 41: NOT_FOUND if there were none (nothing changes then)");
-        refused("healAll of nobody", LockstepRoom::new, x -> x.healAll(), NONE);
-        refused("healAll without a donor", CallEdgesTest::withoutDonor, x -> x.healAll(), NONE);
-        refused("healAll without a vote", Snapshot.then(CallEdgesTest::busy, x -> x.setSetting(QUORUM, 6)), x -> x.healAll(), NONE);
-        refused("healAll of those who are right", CallEdgesTest::full, x -> x.healAll(), NONE);
+        refused("healAll of nobody", NEW, x -> x.healAll(), NONE);
+        refused("healAll without a donor", NO_DONOR, x -> x.healAll(), NONE);
+        refused("healAll without a vote", Snapshot.then(BUSY, x -> x.setSetting(QUORUM, 6)), x -> x.healAll(), NONE);
+        refused("healAll of those who are right", ALL, x -> x.healAll(), NONE);
         check.due("healAll", busy().healAll(), 1);
-        refused("healAll once more", Snapshot.then(CallEdgesTest::busy, x -> x.healAll()), x -> x.healAll(), NONE);
+        refused("healAll once more", Snapshot.then(BUSY, x -> x.healAll()), x -> x.healAll(), NONE);
+        check.about("Promise 41: all members that can be healed, in ascending order of their indices; whether one can is looked at when it is its turn");
+        LockstepRoom first = Check.loaded(SIX + "fault a 0 0 1;fault b 0 0 2;fault f 0 0 3;seal;");
+        first.tick();
+        check.due("healAll", first.healAll(), 3);
+        // a by c, b by a, f by b: those who were healed are donors with the lowest index that gave none
+        int[] given = {1, 1, 1, 0, 0, 0};
+        for (int m = 0; m < 6; m++) {
+            check.due("given by " + m, first.memberNumber(m, 3), given[m]);
+            check.due("healed " + m, first.memberNumber(m, 5), m < 2 || m == 5 ? 1 : 0);
+        }
         check.about("Promise 41: This is one change");
         Snapshot.Recipe five = () -> {
             LockstepRoom x = Check.loaded(SIX + "set quorum 1;fault b 0 0 1;fault c 0 0 2;fault d 0 0 3;fault e 0 0 4;fault f 0 0 5;seal;");
@@ -810,37 +842,32 @@ public final class CallEdgesTest {
     private static void join() {
         check.about("Promise 42: BAD_VALUE if pace is out of range; FULL if there are 6 members, also those who left; NOT_ALLOWED if there is no donor; checked in this order");
         for (int pace : new int[] {-1, 0, 5, LEAST, GREATEST}) {
-            refused("join(" + pace + ") to nobody", LockstepRoom::new, x -> x.join(pace), BAD);
-            refused("join(" + pace + ")", CallEdgesTest::busy, x -> x.join(pace), BAD);
-            refused("join(" + pace + ") to six", CallEdgesTest::full, x -> x.join(pace), BAD);
+            refused("join(" + pace + ") to nobody", NEW, x -> x.join(pace), BAD);
+            refused("join(" + pace + ")", BUSY, x -> x.join(pace), BAD);
+            refused("join(" + pace + ") to six", ALL, x -> x.join(pace), BAD);
         }
         for (int pace = 1; pace <= 4; pace++) {
             int of = pace;
-            refused("join(" + pace + ") to nobody", LockstepRoom::new, x -> x.join(of), NOT_ALLOWED);
-            refused("join(" + pace + ") to six", CallEdgesTest::full, x -> x.join(of), FULL);
-            refused("join(" + pace + ") to six without a vote", Snapshot.then(CallEdgesTest::full, x -> x.setSetting(QUORUM, 6)), x -> x.join(of), FULL);
-            refused("join(" + pace + ") without a vote", Snapshot.then(CallEdgesTest::busy, x -> x.setSetting(QUORUM, 6)), x -> x.join(of), NOT_ALLOWED);
+            refused("join(" + pace + ") to nobody", NEW, x -> x.join(of), NOT_ALLOWED);
+            refused("join(" + pace + ") to six", ALL, x -> x.join(of), FULL);
+            refused("join(" + pace + ") to six without a vote", Snapshot.then(ALL, x -> x.setSetting(QUORUM, 6)), x -> x.join(of), FULL);
+            refused("join(" + pace + ") without a vote", Snapshot.then(BUSY, x -> x.setSetting(QUORUM, 6)), x -> x.join(of), NOT_ALLOWED);
             LockstepRoom x = busy();
             check.due("join(" + pace + ")", x.join(pace), 4);
             check.due("pace", x.memberNumber(4, 0), pace);
             check.due("executed", x.memberNumber(4, 1), 2);
         }
-        refused("join without a donor", CallEdgesTest::goneOn, x -> x.join(1), NOT_ALLOWED);
-    }
-
-    /** b is the last one, at 1, and not in the group that wins there. */
-    private static LockstepRoom goneOn() {
-        return withoutDonor();
+        refused("join without a donor", NO_DONOR, x -> x.join(1), NOT_ALLOWED);
     }
 
     private static void leave() {
         check.about("Promise 43: NOT_FOUND if member is not a valid index; NOT_ALLOWED if it left already; checked in this order");
         for (int member : new int[] {-1, 4, LEAST, GREATEST}) {
-            refused("leave of " + member, CallEdgesTest::busy, x -> x.leave(member), NONE);
+            refused("leave of " + member, BUSY, x -> x.leave(member), NONE);
         }
-        refused("leave of one who left", CallEdgesTest::busy, x -> x.leave(2), NOT_ALLOWED);
-        refused("leave of one who left", CallEdgesTest::full, x -> x.leave(5), NOT_ALLOWED);
-        refused("leave of nobody", LockstepRoom::new, x -> x.leave(0), NONE);
+        refused("leave of one who left", BUSY, x -> x.leave(2), NOT_ALLOWED);
+        refused("leave of one who left", ALL, x -> x.leave(5), NOT_ALLOWED);
+        refused("leave of nobody", NEW, x -> x.leave(0), NONE);
         check.about("Promise 43: What waits of its faults is taken away");
         for (int gone = 0; gone < 3; gone++) {
             LockstepRoom x = Check.loaded("member a 1;member b 1;member c 1;fault a 0 0 1;fault b 0 1 2;fault c 39 2 3;fault a 39 3 4;fault b 1 4 5;fault c 0 5 6;");
@@ -867,11 +894,11 @@ public final class CallEdgesTest {
         check.about("Promise 44: BAD_VALUE if setting is neither or value is out of its range");
         for (int setting : new int[] {-1, 2, LEAST, GREATEST}) {
             for (int value : new int[] {0, 1, 6, 41}) {
-                refused("setSetting(" + setting + ", " + value + ")", CallEdgesTest::busy, x -> x.setSetting(setting, value), BAD);
+                refused("setSetting(" + setting + ", " + value + ")", BUSY, x -> x.setSetting(setting, value), BAD);
             }
         }
-        outside("setSetting(LAG)", CallEdgesTest::busy, (x, value) -> x.setSetting(LAG, value), BAD, -1, 0, 41, LEAST, GREATEST);
-        outside("setSetting(QUORUM)", CallEdgesTest::busy, (x, value) -> x.setSetting(QUORUM, value), BAD, -1, 0, 7, 40, LEAST, GREATEST);
+        outside("setSetting(LAG)", BUSY, (x, value) -> x.setSetting(LAG, value), BAD, -1, 0, 41, LEAST, GREATEST);
+        outside("setSetting(QUORUM)", BUSY, (x, value) -> x.setSetting(QUORUM, value), BAD, -1, 0, 7, 40, LEAST, GREATEST);
         check.about("Promise 44: Returns the previous value");
         LockstepRoom x = busy();
         check.due("lag", x.setSetting(LAG, 1), 20);
@@ -884,7 +911,7 @@ public final class CallEdgesTest {
 
     private static void undo() {
         check.about("Promise 45: NOT_FOUND if there is none to undo");
-        refused("undo in a new room", LockstepRoom::new, x -> x.undo(), NONE);
+        refused("undo in a new room", NEW, x -> x.undo(), NONE);
         refused("undo behind load", () -> Check.loaded("member a 1;seal;"), x -> x.undo(), NONE);
         LockstepRoom x = busy();
         for (int left = 9; left >= 0; left--) {
@@ -918,14 +945,14 @@ public final class CallEdgesTest {
         check.due("write", Check.written(y, 1), "abcdef:" + " 0".repeat(16));
         check.about("Promise 46: throws if member is not a valid index");
         for (int member : new int[] {-1, 4, LEAST, GREATEST}) {
-            refused("write of " + member, CallEdgesTest::busy, z -> z.write(member), THROWS);
+            refused("write of " + member, BUSY, z -> z.write(member), THROWS);
         }
     }
 
     private static void outputAt() {
         check.about("Promise 47: NOT_FOUND if there is none with that index");
-        outside("outputAt", LockstepRoom::new, (x, at) -> x.outputAt(at), NONE, -1, 0, 1, LEAST, GREATEST);
-        outside("outputAt", CallEdgesTest::busy, (x, at) -> x.outputAt(at), NONE, -1, busy().write(1), LEAST, GREATEST);
+        outside("outputAt", NEW, (x, at) -> x.outputAt(at), NONE, -1, 0, 1, LEAST, GREATEST);
+        outside("outputAt", BUSY, (x, at) -> x.outputAt(at), NONE, -1, busy().write(1), LEAST, GREATEST);
         String due = "b: 6 36 0 0 9 0 0 0 0 0 0 0 0 0 0 6";
         LockstepRoom x = busy();
         for (int at = 0; at < due.length(); at++) {
@@ -944,11 +971,11 @@ public final class CallEdgesTest {
             x -> x.outputAt(0), x -> x.write(1)};
         for (int k = 0; k < questions.length; k++) {
             int of = k;
-            check.due("the room behind question " + k, Snapshot.of(Snapshot.then(CallEdgesTest::busy, x -> questions[of].make(x))), Snapshot.of(CallEdgesTest::busy));
+            check.due("the room behind question " + k, Snapshot.of(Snapshot.then(BUSY, x -> questions[of].make(x))), Snapshot.of(BUSY));
         }
         check.about("feed and load are no changes that undo knows");
-        Snapshot.Recipe fed = Snapshot.then(CallEdgesTest::busy, x -> x.feed(0x7365616c, 0x3b202020, 0, 0, 0));
+        Snapshot.Recipe fed = Snapshot.then(BUSY, x -> x.feed(0x7365616c, 0x3b202020, 0, 0, 0));
         check.due("undoCount behind feed", fed.make().undoCount(), 10);
-        check.due("the room behind feed", Snapshot.room(fed), Snapshot.room(CallEdgesTest::busy));
+        check.due("the room behind feed", Snapshot.room(fed), Snapshot.room(BUSY));
     }
 }

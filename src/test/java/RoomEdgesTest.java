@@ -592,6 +592,7 @@ public final class RoomEdgesTest {
         noneOrOneThatBothHave();
         differentLengths();
         downTheTrees();
+        sameChecksumsOfOtherCells();
     }
 
     private static int halved(boolean[] differ, int least, int greatest) {
@@ -808,6 +809,58 @@ public final class RoomEdgesTest {
         return text.toString();
     }
 
+    /**
+     * 69069 times 4291 is 30037 times 9867: where cell 10 is higher by 4291 and cell 11 lower by 9867, node 13 has the
+     * same checksum all the same.
+     */
+    private static LockstepRoom hidden(String more) {
+        return Check.loaded("start 0 0 0 0 0 0 0 0 0 0 1 9868;member a 1;member b 1;member c 1;fault c 0 10 4291;fault c 0 11 133;" + more + "seal;seal;");
+    }
+
+    private static void sameChecksumsOfOtherCells() {
+        check.about("if the checksums of a node are the same in both, nothing below it is looked at");
+        LockstepRoom x = hidden("");
+        x.tick();
+        check.due("cell 10", x.cellOf(2, 10), 4292);
+        check.due("cell 11", x.cellOf(2, 11), 1);
+        check.due("node 26", x.checksum(2, 26) != x.checksum(0, 26), true);
+        check.due("node 27", x.checksum(2, 27) != x.checksum(0, 27), true);
+        check.due("node 13", x.checksum(2, 13), x.checksum(0, 13));
+        check.due("wrongCells", x.wrongCells(0, 2), 0);
+        check.due("firstWrongCell", x.firstWrongCell(0, 2), NONE);
+        check.due("comparisons", x.comparisons(0, 2), 1);
+        check.due("firstWrongTurn", x.firstWrongTurn(0, 2), NONE);
+        check.due("halvedTurn", x.halvedTurn(0, 2), NONE);
+        check.due("votes", x.votes(2, 1), 3);
+        check.due("it is not wrong", x.wrongMembers(), 0);
+        check.due("whyNot", x.whyNot(2), 3);
+        check.due("it is not true", x.trueMembers(), 3);
+        // the lower one gives, though its cells are others
+        x.leave(0);
+        x.leave(1);
+        x.setSetting(QUORUM, 1);
+        check.due("join", x.join(1), 3);
+        check.due("all cells are copied", cells(x, 3), cells(x, 2));
+        check.about("The cells that differ, as they are found by going down both trees, are copied from the donor");
+        LockstepRoom y = hidden("fault c 0 15 5;fault c 0 8 5;");
+        y.tick();
+        check.due("wrongCells", y.wrongCells(0, 2), 1 << 15 | 1 << 8);
+        // 1; 2, 3; 6, 7; 12, 13, 14, 15; 24, 25; 30, 31
+        check.due("comparisons", y.comparisons(2, 0), 13);
+        check.due("heal", y.heal(2), 2);
+        check.due("the cells that are not found stay", cells(y, 2), "0 0 0 0 0 0 0 0 0 0 4292 1 0 0 0 0");
+        check.due("got", y.memberNumber(2, 4), 2);
+        check.due("given", y.memberNumber(0, 3), 2);
+        check.due("record", y.rootAt(2, 1), y.rootAt(0, 1));
+        check.due("it is not wrong", y.isWrong(2), false);
+        check.due("it is not true", y.trueMembers(), 3);
+        LockstepRoom z = hidden("fault c 0 10 1;");
+        z.tick();
+        check.due("wrongCells", z.wrongCells(0, 2), 1 << 10 | 1 << 11);
+        check.due("heal", z.heal(2), 2);
+        check.due("cells", cells(z, 2), cells(z, 0));
+    }
+
     // ---- VOTES
 
     /** Six members behind one turn, whose cells are as the digits say; '-' has not executed it, 'x' left behind it. */
@@ -1002,17 +1055,45 @@ public final class RoomEdgesTest {
         check.about("of these the one that gave the fewest cells so far; ties are broken by lower index");
         LockstepRoom x = Check.loaded(SIX + "fault f 0 0 1;fault f 0 1 1;fault f 1 0 1;fault f 2 0 1;fault f 3 0 1;fault f 4 0 1;fault f 5 0 1;" + "seal;".repeat(6));
         int[] donors = {0, 1, 2, 3, 4, 1};
-        int[] gave = {2, 1, 1, 1, 1};
+        int[] given = {2, 2, 1, 1, 1};
         for (int turn = 0; turn < 6; turn++) {
             x.tick();
             check.due("donorFor(5) at " + turn, x.donorFor(5), donors[turn]);
             check.due("heal at " + turn, x.heal(5), turn == 0 ? 2 : 1);
         }
         for (int m = 0; m < 5; m++) {
-            check.due("given by " + m, x.memberNumber(m, 3), gave[m] + (m == 1 ? 1 : 0));
+            check.due("given by " + m, x.memberNumber(m, 3), given[m]);
         }
         check.due("got", x.memberNumber(5, 4), 7);
         check.due("healed", x.memberNumber(5, 5), 6);
+        // one with a higher index that gave more, and one that gave fewer, but more than the lowest one
+        LockstepRoom y = Check.loaded(SIX + "fault f 0 0 1;fault f 0 1 1;fault f 1 0 1;fault f 2 0 1;seal;seal;seal;seal;");
+        y.tick();
+        y.run(0, 1);
+        y.run(2, 1);
+        check.due("heal by b", y.heal(5), 2);
+        y.run(1, 1);
+        y.run(3, 1);
+        y.run(5, 1);
+        y.run(0, 1);
+        check.due("heal by c", y.heal(5), 1);
+        y.run(2, 1);
+        y.run(1, 1);
+        y.run(3, 1);
+        y.run(5, 1);
+        int[] gave = {0, 2, 1, 0, 0, 0};
+        for (int m = 0; m < 6; m++) {
+            check.due("given by " + m, y.memberNumber(m, 3), gave[m]);
+        }
+        check.due("a gave none, b two, c one, d none", y.donorFor(5), 0);
+        y.leave(0);
+        check.due("b gave two, c one, d none", y.donorFor(5), 3);
+        y.leave(3);
+        check.due("b gave two, c one", y.donorFor(5), 2);
+        y.leave(2);
+        y.setSetting(QUORUM, 1);
+        check.due("b alone is left", y.donorFor(5), 1);
+        check.due("heal by b", y.heal(5), 1);
     }
 
     private static void cellsThatDiffer() {
@@ -1185,6 +1266,7 @@ public final class RoomEdgesTest {
 
     private static void changes() {
         eachCallIsOneChange();
+        theLastOfEachRow();
         theTenLatest();
         nothingDifferentIsAChange();
         undoLeavesTheBuffers();
@@ -1209,6 +1291,52 @@ public final class RoomEdgesTest {
             check.due("undo of change " + k, Snapshot.of(undone), Snapshot.of(before));
             check.due("change " + k + " once more", Snapshot.of(Snapshot.then(undone, change)), Snapshot.of(behind));
         }
+    }
+
+    /** The first and the last cell, record, member, fault and command come back, too. */
+    private static void theLastOfEachRow() {
+        check.about("everything is then as before it");
+        Snapshot.Recipe full = () -> {
+            LockstepRoom x = Check.loaded(SIX + "set quorum 1;fault a 39 3 7;fault f 39 0 1;fault f 39 15 1;" + "seal;".repeat(39) + "do a add 0 9999;do f add 15 9999;".repeat(4));
+            for (int n = 0; n < 7; n++) {
+                x.fault(5, 38, n + 1, 9999 - n);
+            }
+            for (int m = 0; m < 6; m++) {
+                x.run(m, 38);
+            }
+            return x;
+        };
+        Snapshot.Step[] steps = {x -> x.seal(), x -> x.run(5, 1), x -> x.run(5, 1), x -> x.run(0, 2), x -> x.heal(5), x -> x.give(5, PUT, 15, 9999), x -> x.leave(5), x -> x.leave(0)};
+        Snapshot.Recipe before = full;
+        for (int k = 0; k < steps.length; k++) {
+            Snapshot.Recipe behind = Snapshot.then(before, steps[k]);
+            check.due("step " + k + " makes something different", withoutUndoCount(behind).equals(withoutUndoCount(before)), false);
+            check.due("undo of step " + k, withoutUndoCount(Snapshot.then(behind, x -> x.undo())), withoutUndoCount(before));
+            before = behind;
+        }
+        LockstepRoom end = before.make();
+        check.due("healed at 40", end.memberNumber(5, 5), 1);
+        check.due("ten faults", full.make().count(3), 10);
+        for (int gone : new int[] {0, 5}) {
+            Snapshot.Recipe left = Snapshot.then(full, x -> x.leave(gone));
+            check.due("faults of the others", left.make().count(3), gone == 0 ? 9 : 1);
+            check.due("undo of leave", withoutUndoCount(Snapshot.then(left, x -> x.undo())), withoutUndoCount(full));
+        }
+        // another fault takes the place of the tenth
+        LockstepRoom x = full.make();
+        x.leave(0);
+        check.due("a tenth fault", x.fault(4, 38, 12, 13), 10);
+        x.undo();
+        x.undo();
+        int[] due = {5, 38, 7, 9993};
+        for (int what = 0; what < 4; what++) {
+            check.due("faultNumber(9, " + what + ")", x.faultNumber(9, what), due[what]);
+        }
+    }
+
+    /** More than ten changes were made, so that one more and its undo leave nine. */
+    private static String withoutUndoCount(Snapshot.Recipe recipe) {
+        return Snapshot.room(recipe).replaceFirst("^((?: \\d+){4}) \\d+", "$1");
     }
 
     private static void theTenLatest() {

@@ -30,6 +30,7 @@ public final class TextEdgesTest {
         blanksBetweenTokens();
         anyOtherCharacter();
         everyCutText();
+        wordsOfTheFormat();
         grammarOfStart();
         grammarOfMember();
         grammarOfDo();
@@ -162,18 +163,32 @@ public final class TextEdgesTest {
     private static void replacesTheRoom() {
         check.about("Settings and cells that the text does not give have their initial values");
         Snapshot.Recipe empty = LockstepRoom::new;
+        // filled three times, as a room may keep what was before the last one
         Snapshot.Recipe filled = () -> {
-            LockstepRoom x = Check.loaded("start 1 2 3;member a 2;member b 3;set lag 3;set quorum 1;do a put 4 4;fault b 0 0 1;fault a 9 9 9;seal;do b put 1 1;");
-            x.tick();
-            x.healAll();
-            x.join(2);
-            x.leave(0);
+            LockstepRoom x = new LockstepRoom();
+            for (int n = 0; n < 3; n++) {
+                Check.load(x, "start 1 2 3;member a 2;member b 3;set lag 3;set quorum 1;do a put 4 4;fault b 0 0 1;fault a 9 9 9;seal;do b put 1 1;");
+                x.tick();
+                x.healAll();
+                x.fault(0, 1, 15, 9);
+                x.seal();
+                x.tick();
+                x.setSetting(LockstepRoom.QUORUM, 1);
+                x.leave(1);
+                x.join(2);
+                x.undo();
+                x.undo();
+                x.join(2);
+                x.leave(0);
+            }
             return x;
         };
         check.due("the room before is another one", Snapshot.of(filled).equals(Snapshot.of(empty)), false);
         check.due("the empty text makes a new room", Snapshot.of(Snapshot.then(filled, x -> x.load(0))), Snapshot.of(empty));
         String text = "member c 4;seal;do c add 1 1;fault c 0 1 1;";
         check.due("nothing is left of the room before", Snapshot.of(Snapshot.then(filled, x -> Check.load(x, text))), Snapshot.of(() -> Check.loaded(text)));
+        String more = "member d 4;member e 4;member f 4;member g 4;member h 4;" + "seal;".repeat(40);
+        check.due("nothing is left of the room before", Snapshot.of(Snapshot.then(filled, x -> Check.load(x, more))), Snapshot.of(() -> Check.loaded(more)));
         check.about("what was written to the output buffer stays");
         LockstepRoom y = filled.make();
         int length = y.write(1);
@@ -349,6 +364,7 @@ public final class TextEdgesTest {
             String text = blank + String.join(blank, tokens) + blank;
             good(text, 5);
             LockstepRoom x = Check.loaded(text);
+            check.due("name", x.memberNamed(Check.letters("ab")), 0);
             check.due("pace", x.memberNumber(0, 0), 2);
             check.due("truth", x.truth(1, 3), 9);
             check.due("fault", x.faultNumber(0, 3), 3);
@@ -424,6 +440,28 @@ public final class TextEdgesTest {
             errorAt(ahead + "|!" + behind, SYNTAX);
             if (k > 0) {
                 error(ahead.toString(), SYNTAX, ahead.length());
+            }
+        }
+    }
+
+    /** Each letter of each word of the format in turn is another one, or is taken out. */
+    private static void wordsOfTheFormat() {
+        check.about("SYNTAX_ERROR: the token is not allowed here");
+        String[] texts = {"|start| 1;", "|member| a 1;", A + "|do| a put 1 1;", "|seal|;", A + "|fault| a 1 1 1;", "|set| lag 1;", "set |lag| 1;", "set |quorum| 1;",
+            A + "do a |put| 1 1;", A + "do a |add| 1 1;", A + "do a |copy| 1 1;", A + "do a |sum| 1 1;", A + "do a |swap| 1 1;", A + "do a |mul| 1 1;"};
+        for (String text : texts) {
+            int first = text.indexOf('|');
+            String ahead = text.substring(0, first);
+            String word = text.substring(first + 1, text.lastIndexOf('|'));
+            String behind = text.substring(text.lastIndexOf('|') + 1);
+            good(ahead + word + behind, ahead.startsWith(A) ? 2 : 1);
+            for (int k = 0; k < word.length(); k++) {
+                String end = word.substring(k + 1);
+                for (int step = -1; step <= 1; step += 2) {
+                    errorAt(ahead + "|" + word.substring(0, k) + (char) (word.charAt(k) + step) + end + behind, SYNTAX);
+                }
+                errorAt(ahead + "|" + word.substring(0, k) + end + behind, SYNTAX);
+                errorAt(ahead + "|" + word.substring(0, k) + word.charAt(k) + word.charAt(k) + end + behind, SYNTAX);
             }
         }
     }
