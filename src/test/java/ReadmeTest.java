@@ -28,7 +28,7 @@ public final class ReadmeTest {
         try {
             copy(Path.of("README.md"), top.resolve("main/README.md"));
             copy(Path.of("src"), top.resolve("main/src"));
-            copy(Path.of("../shared"), top.resolve("shared"));
+            copy(Path.of("../shared/tests"), top.resolve("shared/tests"));
             tryBlocks(page, top.resolve("main"));
         } finally {
             delete(top);
